@@ -334,8 +334,6 @@ public final class StackGuard {
 
         void dropGuard() {
             isGuard = false;
-            responsible = 0;
-            limit = null;
         }
 
         /** asked is null in the walk for nothing, which no limit takes in. */

@@ -110,9 +110,14 @@ public final class GrantTest {
         guard.grant(5, 5);
         Expect.same("two of three", 2f / 3f, guard.idle(5));
         guard.revoke(5, 2);
-        guard.grant(3, 0);
-        guard.grant(3, 4);
-        Expect.same("neither has the other", 0f, guard.idle(3));
+        Expect.same("neither of two has the other", 0f, guard.idle(5));
+        guard.grant(3, 3);
+        guard.grant(3, 2);
+        Expect.same("the first one takes in the second", 0.5f, guard.idle(3));
+        guard.grant(2, 5);
+        guard.grant(2, 0);
+        guard.grant(2, 4);
+        Expect.same("the first one takes in both", 2f / 3f, guard.idle(2));
         Expect.same("no grants", 0f, guard.idle(0));
     }
 

@@ -6,6 +6,7 @@ public final class StackTest {
     public static void main(String[] args) {
         framesAreCountedUpToTen();
         leaveEndsTheGuardBelow();
+        leaveEndsTheGuardOfTheLastFrame();
         guardWithoutLimitEndsTheWalk();
         guardWithLimitEndsTheWalkForWhatItTakesIn();
         guardIsSetAnew();
@@ -62,6 +63,17 @@ public final class StackTest {
         Expect.same("a guard that went", 0b11, guard.walk(0, -1));
         entered(guard, 5);
         Expect.same("its place is new", 0b100011, guard.walk(0, -1));
+    }
+
+    private static void leaveEndsTheGuardOfTheLastFrame() {
+        StackGuard guard = entered(new StackGuard(), 5);
+        guard.spawn(0);
+        guard.enter(1, 0);
+        guard.guard(1, -1, -1);
+        guard.enter(1, 1);
+        Expect.same("guarded", 0b11, guard.walk(1, -1));
+        guard.leave(1);
+        Expect.same("a guard no more: the maker counts", 0b100001, guard.walk(1, -1));
     }
 
     private static void guardWithoutLimitEndsTheWalk() {
