@@ -444,6 +444,7 @@ public final class StackGuard {
 
         private final String text;
         private int at;
+        private char kind = END;
         private final StringBuilder labels = new StringBuilder();
         private int wildcard = Permission.NO_WILDCARD;
         private int parts;
@@ -464,10 +465,11 @@ public final class StackGuard {
 
         /** Only for a text that was read to its end. */
         Permission result() {
-            return new Permission(text.charAt(0), writtenText(), parts, labels.toString(), wildcard);
+            return new Permission(kind, writtenText(), parts, labels.toString(), wildcard);
         }
 
         private boolean readPermission() {
+            kind = next();
             if (accept(Permission.ALL)) {
                 parts = Permission.ALL_PARTS;
                 return true;
@@ -601,7 +603,7 @@ public final class StackGuard {
             }
             StringBuilder written = new StringBuilder();
             written.append(text.substring(0, colon + 1));
-            if (text.charAt(0) == Permission.FILE) {
+            if (kind == Permission.FILE) {
                 appendLetters(written);
             } else {
                 appendRange(written);

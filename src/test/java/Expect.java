@@ -15,6 +15,8 @@ final class Expect {
     }
 
     private static int wrong = 0;
+    /** The sentence whose test is running, if it is one. */
+    private static String place = "";
 
     private Expect() {
     }
@@ -22,8 +24,18 @@ final class Expect {
     static void same(String what, Object due, Object got) {
         if (!Objects.equals(due, got)) {
             wrong++;
-            System.out.println(what + ": answered " + got + ", due is " + due);
+            System.out.println(place + what + ": answered " + got + ", due is " + due);
         }
+    }
+
+    /** The test of one sentence of the document that names a boundary case. */
+    static void edge(String where, String sentence, Action test) {
+        place = "[" + where + ": \"" + sentence + "\"] ";
+        same("the test's own calls", "no exception", outcome(() -> {
+            test.run();
+            return "no exception";
+        }));
+        place = "";
     }
 
     static void thrown(String what, Class<? extends RuntimeException> due, Call call) {
@@ -51,6 +63,17 @@ final class Expect {
             same("type '" + text.charAt(i) + "' of " + text, true, guard.type(text.charAt(i)));
         }
         return guard.keep(slot);
+    }
+
+    /** Each of the texts is a permission. */
+    static void kept(String... texts) {
+        for (String text : texts) {
+            same("keep of '" + text + "'", 0, keep(new StackGuard(), 0, text));
+        }
+    }
+
+    static void fault(String text, int due) {
+        same("keep of '" + text + "'", 1 + due, keep(new StackGuard(), 0, text));
     }
 
     /** A new object with these permissions in its slots from 0 on. */

@@ -65,40 +65,36 @@ public final class PermissionTextTest {
     }
 
     private static void someFaults() {
-        fault("", 0);
-        fault("* ", 1);
-        fault(" *", 0);
-        fault("f/a/b/c/", 7);
-        fault("f/a/b/*:", 8);
-        fault("f/a/b/-/", 7);
-        fault("f/*/a:r", 3);
-        fault("f/-:rwxdr", 8);
-        fault("f/a:rwr", 6);
-        fault("f//a:r", 2);
-        fault("f/a/:r", 4);
-        fault("h*.*:1", 3);
-        fault("h*a:1", 2);
-        fault("ha.*:1", 3);
-        fault("ha.b.c.d:1", 6);
-        fault("h*.a.b.c:1", 6);
-        fault("ha:", 3);
-        fault("ha:-", 4);
-        fault("ha:--", 4);
-        fault("ha:-1-", 5);
-        fault("ha:5-4", 5);
-        fault("ha:5-55", 6);
-        fault("ha:5--", 5);
-        fault("ha:-/", 4);
-        fault("n", 1);
-        fault("n*.a", 2);
-        fault("na.b.c.*", 6);
-        fault("na.b.*.c", 6);
-        fault("na:", 2);
-        fault("nab", 2);
-    }
-
-    private static void fault(String text, int due) {
-        Expect.same("keep of '" + text + "'", 1 + due, Expect.keep(new StackGuard(), 0, text));
+        Expect.fault("", 0);
+        Expect.fault("* ", 1);
+        Expect.fault(" *", 0);
+        Expect.fault("f/a/b/c/", 7);
+        Expect.fault("f/a/b/*:", 8);
+        Expect.fault("f/a/b/-/", 7);
+        Expect.fault("f/*/a:r", 3);
+        Expect.fault("f/-:rwxdr", 8);
+        Expect.fault("f/a:rwr", 6);
+        Expect.fault("f//a:r", 2);
+        Expect.fault("f/a/:r", 4);
+        Expect.fault("h*.*:1", 3);
+        Expect.fault("h*a:1", 2);
+        Expect.fault("ha.*:1", 3);
+        Expect.fault("ha.b.c.d:1", 6);
+        Expect.fault("h*.a.b.c:1", 6);
+        Expect.fault("ha:", 3);
+        Expect.fault("ha:-", 4);
+        Expect.fault("ha:--", 4);
+        Expect.fault("ha:-1-", 5);
+        Expect.fault("ha:5-4", 5);
+        Expect.fault("ha:5-55", 6);
+        Expect.fault("ha:5--", 5);
+        Expect.fault("ha:-/", 4);
+        Expect.fault("n", 1);
+        Expect.fault("n*.a", 2);
+        Expect.fault("na.b.c.*", 6);
+        Expect.fault("na.b.*.c", 6);
+        Expect.fault("na:", 2);
+        Expect.fault("nab", 2);
     }
 
     private static void everyLabelAndDigit() {
@@ -132,8 +128,8 @@ public final class PermissionTextTest {
                     Expect.keep(new StackGuard(), 0, start));
             for (char c : ALPHABET.toCharArray()) {
                 if (!begun.contains(start + c)) {
-                    fault(start + c, start.length());
-                    fault(start + c + "a", start.length());
+                    Expect.fault(start + c, start.length());
+                    Expect.fault(start + c + "a", start.length());
                 }
             }
         }
