@@ -141,6 +141,11 @@ public final class FrameEdgesTest {
         Expect.edge("10 leave", "a guard no more", () -> {
             StackGuard guard = enter(new StackGuard(), 0, 4);
             guard.spawn(0);
+            enter(guard, 1, 0);
+            guard.guard(1, -1, -1);
+            enter(guard, 1, 1);
+            guard.leave(1);
+            Expect.same("the last frame, too: what it has from its maker counts", 0b10001, guard.walk(1, -1));
             guard.enter(0, 1);
             guard.guard(0, -1, -1);
             enter(guard, 1, 2, 3);

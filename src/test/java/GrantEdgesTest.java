@@ -81,11 +81,15 @@ public final class GrantEdgesTest {
             Expect.same("so it is granted", true, guard.may(0, 1));
         });
         Expect.edge("6 grant", "behind its other grants: how many it has", () -> {
-            StackGuard guard = granted("na", "nb", "na");
-            Expect.same("the first one goes", 2, guard.revoke(0, 0));
-            Expect.same("the last one was a grant of its own", true, guard.may(0, 0));
-            Expect.same("the last one goes", 1, guard.revoke(0, 1));
-            Expect.same("it was behind", "falsetrue", "" + guard.may(0, 0) + guard.may(0, 1));
+            StackGuard guard = granted("na", "nb", "nc");
+            Expect.same("one that it has is a grant of its own", 4, guard.grant(0, 0));
+            Expect.same("the first one goes", 3, guard.revoke(0, 0));
+            Expect.same("the last one is like it", true, guard.may(0, 0));
+            Expect.same("the last one goes", 2, guard.revoke(0, 2));
+            Expect.same("it was behind the others", false, guard.may(0, 0));
+            Expect.same("the first one now", 1, guard.revoke(0, 0));
+            Expect.same("is the second one that was granted", false, guard.may(0, 1));
+            Expect.same("and the third one is left", true, guard.may(0, 2));
         });
         Expect.edge("6 grant", "IllegalStateException: it has six.", () -> {
             StackGuard guard = granted("na", "nb", "nc", "nd", "ne", "nf");
