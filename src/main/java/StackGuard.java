@@ -445,7 +445,8 @@ public final class StackGuard {
         private final String text;
         private int at;
         private char kind = END;
-        private final StringBuilder labels = new StringBuilder();
+        /** First the labels and then the written text, as one builder is all that a call should make. */
+        private final StringBuilder built = new StringBuilder();
         private int wildcard = Permission.NO_WILDCARD;
         private int parts;
         private int low;
@@ -465,7 +466,9 @@ public final class StackGuard {
 
         /** Only for a text that was read to its end. */
         Permission result() {
-            return new Permission(kind, writtenText(), parts, labels.toString(), wildcard);
+            String labels = built.toString();
+            built.setLength(0);
+            return new Permission(kind, writtenText(), parts, labels, wildcard);
         }
 
         private boolean readPermission() {
@@ -514,7 +517,7 @@ public final class StackGuard {
                     return false;
                 }
             }
-            labels.reverse();
+            built.reverse();
             return true;
         }
 
@@ -538,7 +541,7 @@ public final class StackGuard {
             if (label < 'a' || label > 'i') {
                 return false;
             }
-            labels.append(label);
+            built.append(label);
             at++;
             return true;
         }
@@ -601,28 +604,27 @@ public final class StackGuard {
             if (colon < 0) {
                 return text;
             }
-            StringBuilder written = new StringBuilder();
-            written.append(text.substring(0, colon + 1));
+            built.append(text.substring(0, colon + 1));
             if (kind == Permission.FILE) {
-                appendLetters(written);
+                appendLetters();
             } else {
-                appendRange(written);
+                appendRange();
             }
-            return written.toString();
+            return built.toString();
         }
 
-        private void appendLetters(StringBuilder written) {
+        private void appendLetters() {
             for (int i = 0; i < LETTERS.length(); i++) {
                 if ((parts >> i & 1) == 1) {
-                    written.append(LETTERS.charAt(i));
+                    built.append(LETTERS.charAt(i));
                 }
             }
         }
 
-        private void appendRange(StringBuilder written) {
-            written.append(low);
+        private void appendRange() {
+            built.append(low);
             if (high > low) {
-                written.append('-').append(high);
+                built.append('-').append(high);
             }
         }
     }
